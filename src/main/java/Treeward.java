@@ -53,8 +53,8 @@ public final class Treeward {
     private static final int BASE = 1000000000;
     private static final int TOP_PLACE = 100000000;
     /** Rooms, in digits to BASE, well above what the document's limits can fill. */
-    private static final int PRICE_ROOM = 8;
-    private static final int TABLE_ROOM = 26;
+    private static final int PRICE_ROOM = 6;
+    private static final int TABLE_ROOM = 20;
     private static final int WIDE_ROOM = 90;
     /** Far more rounds than the lowest terms of two numbers that fill a room can take. */
     private static final int MOST_ROUNDS = 100000;
@@ -1142,6 +1142,18 @@ public final class Treeward {
             return size == 0 ? 0 : isBelow ? -1 : 1;
         }
 
+        /** Whether a long holds it, and asLong tells it. */
+        boolean isShort() {
+            return size <= 2;
+        }
+
+        long asLong() {
+            long upper = size > 1 ? digit[1] : 0;
+            long lower = size > 0 ? digit[0] : 0;
+            long all = upper * BASE + lower;
+            return isBelow ? -all : all;
+        }
+
         boolean isOne() {
             return size == 1 && digit[0] == 1 && !isBelow;
         }
@@ -1167,6 +1179,11 @@ public final class Treeward {
 
         /** Multiplies by a number from 0 to 9,000,000,000, for which a long holds each step. */
         void multiply(long factor) {
+            if (factor <= 0) {
+                size = 0;
+                isBelow = false;
+                return;
+            }
             long carry = 0;
             for (int n = 0; n < size; n++) {
                 long sum = digit[n] * factor + carry;
@@ -1178,7 +1195,6 @@ public final class Treeward {
                 carry = carry / BASE;
                 size++;
             }
-            trim();
         }
 
         /** Divides by a number from 1 to 9,000,000,000; what is over is lost. */
@@ -1217,7 +1233,8 @@ public final class Treeward {
         private void addSizes(Whole a, Whole b) {
             int sizeA = a.size;
             int sizeB = b.size;
-            int count = Math.min(Math.max(sizeA, sizeB), digit.length);
+            int count = sizeA > sizeB ? sizeA : sizeB;
+            count = count > digit.length ? digit.length : count;
             int carry = 0;
             for (int n = 0; n < count; n++) {
                 int sum = carry + (n < sizeA ? a.digit[n] : 0) + (n < sizeB ? b.digit[n] : 0);
@@ -1233,7 +1250,7 @@ public final class Treeward {
 
         private void takeSizes(Whole larger, Whole smaller) {
             int sizeB = smaller.size;
-            int count = Math.min(larger.size, digit.length);
+            int count = larger.size > digit.length ? digit.length : larger.size;
             int borrow = 0;
             for (int n = 0; n < count; n++) {
                 int rest = larger.digit[n] - borrow - (n < sizeB ? smaller.digit[n] : 0);
@@ -1241,14 +1258,17 @@ public final class Treeward {
                 digit[n] = rest + borrow * BASE;
             }
             size = count;
-            trim();
+            while (size > 0 && digit[size - 1] == 0) {
+                size--;
+            }
         }
 
         /** Becomes a times b; must be neither of them. */
         void product(Whole a, Whole b) {
-            size = Math.min(a.size + b.size, digit.length);
+            size = a.size == 0 || b.size == 0 ? 0 : Math.min(a.size + b.size, digit.length);
+            isBelow = size > 0 && a.isBelow != b.isBelow;
             Arrays.fill(digit, 0, size, 0);
-            for (int n = 0; n < a.size; n++) {
+            for (int n = 0; n < a.size && n < size; n++) {
                 long carry = 0;
                 for (int m = 0; m < b.size && n + m < size; m++) {
                     long sum = (long) a.digit[n] * b.digit[m] + digit[n + m] + carry;
@@ -1259,8 +1279,9 @@ public final class Treeward {
                     digit[n + b.size] = (int) carry;
                 }
             }
-            isBelow = a.isBelow != b.isBelow;
-            trim();
+            if (size > 0 && digit[size - 1] == 0) {
+                size--;
+            }
         }
 
         /**
@@ -1417,7 +1438,9 @@ public final class Treeward {
         }
 
         int order(Part other) {
-            return Long.compare(top * other.low, other.top * low);
+            long here = top * other.low;
+            long there = other.top * low;
+            return here < there ? -1 : here > there ? 1 : 0;
         }
 
         static long common(long a, long b) {
@@ -2135,6 +2158,7 @@ public final class Treeward {
         final Whole trial;
         final Whole spare;
         final Whole wide;
+        final Whole stock;
         int end;
         /** Which powers of the tree's scales are under the dues. */
         int degree;
@@ -2160,6 +2184,7 @@ public final class Treeward {
             trial = new Whole(WIDE_ROOM);
             spare = new Whole(WIDE_ROOM);
             wide = new Whole(WIDE_ROOM);
+            stock = new Whole(WIDE_ROOM);
             end = 1;
             degree = 0;
             sideDegree = 0;
@@ -2172,10 +2197,14 @@ public final class Treeward {
             for (int level = 0; level <= end; level++) {
                 for (int node = FIRST[level]; node < FIRST[level + 1]; node++) {
                     if (tree.isNode[node]) {
-                        fillDue(tree, claim, heap, node, level);
+                        heap.work(tree, claim, node, level);
+                        payoff[node].copy(heap.value[0]);
+                        heedWall(tree, claim, node);
                     }
                 }
             }
+            degree = Math.min(heap.degree[0], MOST_STEPS);
+            sideDegree = Math.min(heap.sideDegree[0], MOST_STEPS);
             scale[end].product(tree.power[degree], tree.sidePower[sideDegree]);
             if (tree.hasSureWin(end)) {
                 return;
@@ -2192,16 +2221,10 @@ public final class Treeward {
             }
         }
 
-        private void fillDue(Tree tree, Claim claim, Heap heap, int node, int level) {
-            heap.work(tree, claim, node, level);
-            payoff[node].copy(heap.value[0]);
-            degree = Math.min(heap.degree[0], MOST_STEPS);
-            sideDegree = Math.min(heap.sideDegree[0], MOST_STEPS);
-            if (claim.wall != 0) {
-                boolean wakes = claim.wall % 2 == 1;
-                if (isTouched(tree, claim, node) != wakes) {
-                    payoff[node].set(0);
-                }
+        private void heedWall(Tree tree, Claim claim, int node) {
+            boolean wakes = claim.wall % 2 == 1;
+            if (claim.wall != 0 && isTouched(tree, claim, node) != wakes) {
+                payoff[node].set(0);
             }
         }
 
@@ -2431,7 +2454,9 @@ public final class Treeward {
             boolean isCertain = tree.hasTwoWays(end);
             for (int level = 0; level < end; level++) {
                 for (int node = FIRST[level]; node < FIRST[level + 1]; node++) {
-                    if (tree.isNode[node] && !isSoundNode(tree, claim, node, level, isCertain)) {
+                    if (tree.isNode[node] && (!isInOrder(tree, claim, node, level, isCertain)
+                            || !isSoundHolding(tree, node, level, true)
+                            || !isSoundHolding(tree, node, level, false))) {
                         return false;
                     }
                 }
@@ -2439,19 +2464,16 @@ public final class Treeward {
             return !isCertain || claim.mayStop || isSumOfWays(tree);
         }
 
-        private boolean isSoundNode(Tree tree, Claim claim, int node, int level,
-                boolean isCertain) {
+        private boolean isInOrder(Tree tree, Claim claim, int node, int level, boolean isCertain) {
             int order = Whole.compare(low[node], high[node]);
             if (order > 0 || isCertain && order != 0) {
                 return false;
             }
-            if (claim.mayStop) {
-                liftDue(tree, node, level);
-                if (Whole.compare(trial, low[node]) > 0) {
-                    return false;
-                }
+            if (!claim.mayStop) {
+                return true;
             }
-            return isSoundHolding(tree, node, level, true) && isSoundHolding(tree, node, level, false);
+            liftDue(tree, node, level);
+            return Whole.compare(trial, low[node]) <= 0;
         }
 
         private boolean isSoundHolding(Tree tree, int node, int level, boolean isHigh) {
@@ -2461,42 +2483,40 @@ public final class Treeward {
                 return false;
             }
             Step asked = tree.step[level];
+            long gap = asked.gap(PAIR_LOWER[pair], PAIR_UPPER[pair]);
             copyMoney(asked, worth, node, pair, wide);
+            copyStock(asked, worth, node, pair, stock);
             for (int way = 0; way < WAYS; way++) {
                 if (asked.hasWay(way)) {
-                    int order = orderNext(tree, node, level, way, pair, worth);
+                    int order = orderNext(asked.factor[way], gap, worth[WAYS * node + 1 + way]);
                     if (isHigh ? order < 0 : order > 0) {
                         return false;
                     }
                 }
             }
-            return costsGoOn(tree, node, level, pair, worth);
+            between(tree, worth, node, level, pair);
+            return costsTrial(asked.interest, gap, tree.common[level]);
         }
 
-        /** Compares a holding, its money in wide, with the worth at a next node. */
-        private int orderNext(Tree tree, int node, int level, int way, int pair, Whole[] worth) {
-            Step asked = tree.step[level];
-            Part factor = asked.factor[way];
-            copyStock(asked, worth, node, pair, spare);
+        /** Compares the holding in stock and wide with a worth at the next node by a factor. */
+        private int orderNext(Part factor, long gap, Whole worth) {
+            spare.copy(stock);
             spare.multiply(factor.top);
             trial.copy(wide);
             trial.multiply(factor.low);
             spare.sum(spare, trial, false);
-            trial.copy(worth[WAYS * node + 1 + way]);
-            trial.multiply(asked.gap(PAIR_LOWER[pair], PAIR_UPPER[pair]) * factor.low);
+            trial.copy(worth);
+            trial.multiply(gap * factor.low);
             return Whole.compare(spare, trial);
         }
 
-        /** Whether a holding, its money in wide, costs what going on is worth. */
-        private boolean costsGoOn(Tree tree, int node, int level, int pair, Whole[] worth) {
-            Step asked = tree.step[level];
-            copyStock(asked, worth, node, pair, spare);
-            spare.multiply(asked.interest.top);
-            wide.multiply(asked.interest.low);
-            wide.sum(wide, spare, false);
-            wide.multiply(tree.common[level]);
-            between(tree, worth, node, level, pair);
-            trial.multiply(asked.gap(PAIR_LOWER[pair], PAIR_UPPER[pair]) * asked.interest.top);
+        /** Whether the holding in stock and wide costs what is in trial, which it uses up. */
+        private boolean costsTrial(Part interest, long gap, long common) {
+            stock.multiply(interest.top);
+            wide.multiply(interest.low);
+            wide.sum(wide, stock, false);
+            wide.multiply(common);
+            trial.multiply(gap * interest.top);
             return Whole.compare(wide, trial) == 0;
         }
 
@@ -2638,10 +2658,15 @@ public final class Treeward {
             one.isBelow = false;
             two.copy(ratio.low);
             for (int n = 0; n < MOST_ROUNDS && two.size > 0; n++) {
-                one.divide(two, quotient, scaled);
-                Whole rest = one;
-                one = two;
-                two = rest;
+                if (one.isShort() && two.isShort()) {
+                    one.set(Part.common(one.asLong(), two.asLong()));
+                    two.set(0);
+                } else {
+                    one.divide(two, quotient, scaled);
+                    Whole rest = one;
+                    one = two;
+                    two = rest;
+                }
             }
             if (!one.isOne()) {
                 boolean isBelow = ratio.top.isBelow;

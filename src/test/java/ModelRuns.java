@@ -1367,6 +1367,79 @@ public final class ModelRuns {
         check("digest", () -> x.digest(), () -> m.digest());
     }
 
+    private static int large() {
+        return between(5, 9);
+    }
+
+    /** A tree of four steps of three ways and large lower numbers, and claims of products. */
+    private static void heavyRun() {
+        int[][] rows = {{10, 10, 17, 10, 17, 10, 17}, {10, 14, 17, 11, 17, 14, 17},
+            {11, 12, 17, 13, 17, 10, 17}, {14, 14, 17, 14, 17, 14, 17}, {10, 11, 17, 12, 13, 17, 16},
+            {10, 14, 16, 11, 13, 17, 17}, {9, 10, 17, 14, 15, 11, 17}};
+        int[] start = {between(80, 99), large(), between(80, 99), large()};
+        check("start", () -> x.start(false, start[0], start[1]), () -> m.start(false, start[0], start[1]));
+        check("start", () -> x.start(true, start[2], start[3]), () -> m.start(true, start[2], start[3]));
+        for (int n = 0; n < 4; n++) {
+            int s = n;
+            while (m.desk.steps.size() <= s) {
+                int[] v = {between(1, 9), large(), between(1, 9), large(), large(), large()};
+                if (v[0] * v[3] > v[2] * v[1]) {
+                    check("step", () -> x.step(v[0], v[1], v[2], v[3], v[4], v[5]),
+                            () -> m.step(v[0], v[1], v[2], v[3], v[4], v[5]));
+                }
+            }
+            for (int tries = 0; tries < 30 && m.desk.steps.get(s).factor[1] == null; tries++) {
+                int a = between(1, 9);
+                int b = large();
+                check("middle " + a + " " + b, () -> x.middle(s, a, b), () -> m.middle(s, a, b));
+            }
+            int kind = between(1, 2);
+            int a = kind == 1 ? between(1, 2) : between(1, 9);
+            int b = large();
+            check("pays", () -> x.pays(s, kind, a, b), () -> m.pays(s, kind, a, b));
+            int[] w = {large(), large(), large(), large()};
+            check("beside", () -> x.beside(s, w[0], w[1], w[2], w[3]), () -> m.beside(s, w[0], w[1], w[2], w[3]));
+            for (int tries = 0; tries < 30 && !m.desk.steps.get(s).sure().equals("."); tries++) {
+                int e = large();
+                int f = large();
+                check("rate", () -> x.rate(s, e, f), () -> m.rate(s, e, f));
+            }
+        }
+        for (int n = 0; n < 4; n++) {
+            check("wipe", () -> x.wipe(), () -> m.wipe());
+            for (int sign : rows[pick(rows.length)]) {
+                check("type " + sign, () -> x.type(sign), () -> m.type(sign));
+            }
+            int c = n;
+            int end = pick(3) == 0 ? 3 : 4;
+            boolean isStop = pick(2) == 0;
+            int many = between(-9, 9);
+            check("claim", () -> x.claim(end, isStop), () -> m.claim(end, isStop));
+            check("book", () -> x.book(c, many), () -> m.book(c, many));
+            check("quote", () -> x.quote(c, 97, 9), () -> m.quote(c, 97, 9));
+            for (int k = 0; k < 3; k++) {
+                askClaims(k);
+                askClaims(5 + k);
+            }
+        }
+        check("fee", () -> x.fee(8, 97), () -> m.fee(8, 97));
+        check("least", () -> x.least(4), () -> m.least(4));
+        check("worthOf", () -> x.worthOf(97, 8, true), () -> m.worthOf(97, 8, true));
+        int sold = between(0, 3);
+        check("sell", () -> x.sell(sold), () -> m.sell(sold));
+        for (int n = 0; n < 4; n++) {
+            int way = between(0, 2);
+            int other = 89 + n;
+            check("day " + way, () -> x.day(way), () -> m.day(way));
+            check("fee", () -> x.fee(7, other), () -> m.fee(7, other));
+            for (int k = 0; k < 5; k++) {
+                int what = k;
+                check("played " + what, () -> x.played(what), () -> m.played(what));
+            }
+        }
+        askAll();
+    }
+
     public static void main(String[] args) {
         int runs = args.length > 0 ? Integer.parseInt(args[0]) : 260;
         int first = args.length > 1 ? Integer.parseInt(args[1]) : 1;
@@ -1420,6 +1493,15 @@ public final class ModelRuns {
                 }
             }
             askAll();
+            all += calls;
+        }
+        for (int run = first; run < first + Math.max(1, runs / 20) && wrong == 0; run++) {
+            seed = run * 104729L + 5;
+            x = new Treeward();
+            m = new Model();
+            calls = 0;
+            history = new StringBuilder("\nheavy run " + run);
+            heavyRun();
             all += calls;
         }
         System.out.println(wrong == 0 ? all + " answers are like the model's" : "not like the model");
