@@ -116,7 +116,7 @@ public final class Treeward {
         part.put(a, b);
         boolean wasAnother = (isOther ? state.sideStart : state.start).order(part) != 0;
         beginTreeChange();
-        (isOther ? state.sideStart : state.start).copy(part);
+        (isOther ? state.sideStart : state.start).copyPart(part);
         return wasAnother ? 1 : 0;
     }
 
@@ -153,7 +153,7 @@ public final class Treeward {
             throw new IllegalArgumentException();
         }
         beginTreeChange();
-        changed.factor[MIDDLE].copy(part);
+        changed.factor[MIDDLE].copyPart(part);
         changed.hasMiddle = true;
         return state.nodesBehind(state.steps);
     }
@@ -319,7 +319,7 @@ public final class Treeward {
         state.playDays = 0;
         state.playCode = 0;
         state.isOver = false;
-        state.playFee[0].copy(state.fee);
+        state.playFee[0].copyPart(state.fee);
         play.isFresh = false;
         return state.claim[claim].end;
     }
@@ -338,7 +338,7 @@ public final class Treeward {
         if (state.playDays >= state.claim[state.playClaim].end) {
             state.isOver = true;
         } else {
-            state.playFee[state.playDays].copy(state.fee);
+            state.playFee[state.playDays].copyPart(state.fee);
         }
         play.isFresh = false;
         return state.playDays;
@@ -380,7 +380,7 @@ public final class Treeward {
             throw new IllegalStateException();
         }
         earlierCount--;
-        state.copy(earlier[(earlierFirst + earlierCount) % MOST_UNDONE]);
+        state.copyState(earlier[(earlierFirst + earlierCount) % MOST_UNDONE]);
         markAllStale();
         return earlierCount;
     }
@@ -559,9 +559,9 @@ public final class Treeward {
         part.put(a, b);
         Claim asked = state.claim[claim];
         for (int more = 0; more <= MOST_MORE; more++) {
-            otherTree.fill(state, state.start, more);
-            if (!otherTree.hasSureWin(asked.end)) {
-                otherTable.fill(otherTree, asked, heap);
+            otherTree.grow(state, state.start, more);
+            if (!otherTree.hasSureWinAhead(asked.end)) {
+                otherTable.fillTable(otherTree, asked, heap);
                 if (otherTable.orderOfHigh(part) >= 0) {
                     return more;
                 }
@@ -597,11 +597,11 @@ public final class Treeward {
             throw new IllegalStateException();
         }
         part.put(a, b);
-        otherTree.fill(state, part, 0);
-        answer.set(0);
+        otherTree.grow(state, part, 0);
+        answer.setNumber(0);
         for (int n = 0; n < state.claims; n++) {
             if (state.claim[n].many != 0) {
-                otherTable.fill(otherTree, state.claim[n], heap);
+                otherTable.fillTable(otherTree, state.claim[n], heap);
                 addWorth(otherTable, state.claim[n].many, false);
                 if (isMove) {
                     freshenClaim(n);
@@ -789,7 +789,7 @@ public final class Treeward {
             earlierFirst = (earlierFirst + 1) % MOST_UNDONE;
             earlierCount--;
         }
-        earlier[(earlierFirst + earlierCount) % MOST_UNDONE].copy(state);
+        earlier[(earlierFirst + earlierCount) % MOST_UNDONE].copyState(state);
         earlierCount++;
     }
 
@@ -809,14 +809,14 @@ public final class Treeward {
 
     private void freshenTree() {
         if (!tree.isFresh) {
-            tree.fill(state, state.start, 0);
+            tree.grow(state, state.start, 0);
         }
     }
 
     private void freshenClaim(int claim) {
         freshenTree();
         if (!table[claim].isFresh) {
-            table[claim].fill(tree, state.claim[claim], heap);
+            table[claim].fillTable(tree, state.claim[claim], heap);
         }
     }
 
@@ -824,7 +824,7 @@ public final class Treeward {
         freshenTree();
         for (int n = 0; n < state.claims; n++) {
             if (!table[n].isFresh) {
-                table[n].fill(tree, state.claim[n], heap);
+                table[n].fillTable(tree, state.claim[n], heap);
             }
         }
     }
@@ -907,7 +907,7 @@ public final class Treeward {
 
     private void putAnswer() {
         reckoner.reduce(answer);
-        answer.putInto(text);
+        answer.putRatio(text);
     }
 
     private void putPrices(int step, boolean isMany) {
@@ -930,7 +930,7 @@ public final class Treeward {
             text.append('.');
         } else {
             asked.copyWeight(part, way);
-            part.putInto(text);
+            part.putPart(text);
         }
     }
 
@@ -939,13 +939,13 @@ public final class Treeward {
         if (what == 1 && !asked.hasMiddle) {
             text.append('.');
         } else if (what < 3) {
-            asked.factor[UP - what].putInto(text);
+            asked.factor[UP - what].putPart(text);
         } else if (what == 3) {
-            asked.interest.putInto(text);
+            asked.interest.putPart(text);
         } else if (what < 7) {
-            asked.side[UP + 4 - what].putInto(text);
+            asked.side[UP + 4 - what].putPart(text);
         } else {
-            asked.payment.putInto(text);
+            asked.payment.putPart(text);
             if (asked.payKind == PAYS_SHARE) {
                 text.append('s');
             }
@@ -990,7 +990,7 @@ public final class Treeward {
             putAnswer();
             text.append(' ');
             reckoner.reduce(second);
-            second.putInto(text);
+            second.putRatio(text);
         } else {
             text.append('.');
         }
@@ -1002,7 +1002,7 @@ public final class Treeward {
         second.top.multiply(Math.abs(many));
         second.low.copy(from.scale[0]);
         reckoner.reduce(second);
-        reckoner.sum(answer, answer, second, isLess != many < 0);
+        reckoner.sumRatios(answer, answer, second, isLess != many < 0);
     }
 
     private void putLeast(int end) {
@@ -1015,7 +1015,7 @@ public final class Treeward {
             }
         }
         boolean isFirst = true;
-        answer.set(0);
+        answer.setNumber(0);
         for (int node = FIRST[end]; node < FIRST[end + 1]; node++) {
             if (tree.isNode[node]) {
                 sumDues(end, node, power, sidePower);
@@ -1031,7 +1031,7 @@ public final class Treeward {
 
     /** Sums the book's dues at a node into second, over these powers of the tree's scales. */
     private void sumDues(int end, int node, int power, int sidePower) {
-        second.set(0);
+        second.setNumber(0);
         for (int n = 0; n < state.claims; n++) {
             int many = state.claim[n].many;
             if (state.claim[n].end == end && many != 0) {
@@ -1062,8 +1062,8 @@ public final class Treeward {
         text.append(claim).append(isAbove ? '-' : '+').append(' ');
         answer.top.copy(isAbove ? asked.high[0] : asked.low[0]);
         answer.low.copy(asked.scale[0]);
-        second.setTo(quote);
-        reckoner.sum(answer, answer, second, true);
+        second.setPart(quote);
+        reckoner.sumRatios(answer, answer, second, true);
         answer.top.isBelow = false;
         putAnswer();
     }
@@ -1075,19 +1075,19 @@ public final class Treeward {
         }
         switch (what) {
             case 0:
-                answer.copy(play.money);
+                answer.copyRatio(play.money);
                 break;
             case 1:
-                answer.copy(play.pieces);
+                answer.copyRatio(play.pieces);
                 break;
             case 2:
                 tree.copyPrice(answer, play.node, play.level, 0);
                 break;
             case 3:
-                answer.copy(play.spare);
+                answer.copyRatio(play.spare);
                 break;
             default:
-                answer.copy(play.fees);
+                answer.copyRatio(play.fees);
                 break;
         }
         putAnswer();
@@ -1368,7 +1368,7 @@ public final class Treeward {
             }
         }
 
-        void putInto(StringBuilder text) {
+        void putWhole(StringBuilder text) {
             if (isBelow) {
                 text.append('-');
             }
@@ -1392,26 +1392,26 @@ public final class Treeward {
             low.set(1);
         }
 
-        void set(long value) {
+        void setNumber(long value) {
             top.set(value);
             low.set(1);
         }
 
-        void setTo(Part value) {
+        void setPart(Part value) {
             top.set(value.top);
             low.set(value.low);
         }
 
-        void copy(Ratio other) {
+        void copyRatio(Ratio other) {
             top.copy(other.top);
             low.copy(other.low);
         }
 
-        void putInto(StringBuilder text) {
-            top.putInto(text);
+        void putRatio(StringBuilder text) {
+            top.putWhole(text);
             if (!low.isOne()) {
                 text.append('/');
-                low.putInto(text);
+                low.putWhole(text);
             }
         }
     }
@@ -1432,7 +1432,7 @@ public final class Treeward {
             low = shared > 1 ? below / shared : below;
         }
 
-        void copy(Part other) {
+        void copyPart(Part other) {
             top = other.top;
             low = other.low;
         }
@@ -1459,7 +1459,7 @@ public final class Treeward {
             return shared > 0 ? a / shared * b : a;
         }
 
-        void putInto(StringBuilder text) {
+        void putPart(StringBuilder text) {
             text.append((int) top);
             if (low != 1) {
                 text.append('/').append((int) low);
@@ -1500,13 +1500,13 @@ public final class Treeward {
             hasMiddle = false;
         }
 
-        void copy(Step other) {
+        void copyStep(Step other) {
             for (int way = 0; way < WAYS; way++) {
-                factor[way].copy(other.factor[way]);
-                side[way].copy(other.side[way]);
+                factor[way].copyPart(other.factor[way]);
+                side[way].copyPart(other.side[way]);
             }
-            interest.copy(other.interest);
-            payment.copy(other.payment);
+            interest.copyPart(other.interest);
+            payment.copyPart(other.payment);
             payKind = other.payKind;
             hasMiddle = other.hasMiddle;
         }
@@ -1604,11 +1604,11 @@ public final class Treeward {
             isQuoted = false;
         }
 
-        void copy(Claim other) {
+        void copyClaim(Claim other) {
             size = other.size;
             System.arraycopy(other.sign, 0, sign, 0, MOST_SIGNS);
-            level.copy(other.level);
-            quote.copy(other.quote);
+            level.copyPart(other.level);
+            quote.copyPart(other.quote);
             end = other.end;
             wall = other.wall;
             many = other.many;
@@ -1668,19 +1668,19 @@ public final class Treeward {
             isOver = false;
         }
 
-        void copy(State other) {
-            start.copy(other.start);
-            sideStart.copy(other.sideStart);
+        void copyState(State other) {
+            start.copyPart(other.start);
+            sideStart.copyPart(other.sideStart);
             for (int n = 0; n < MOST_STEPS; n++) {
-                step[n].copy(other.step[n]);
-                playFee[n].copy(other.playFee[n]);
+                step[n].copyStep(other.step[n]);
+                playFee[n].copyPart(other.playFee[n]);
             }
             steps = other.steps;
             for (int n = 0; n < MOST_CLAIMS; n++) {
-                claim[n].copy(other.claim[n]);
+                claim[n].copyClaim(other.claim[n]);
             }
             claims = other.claims;
-            fee.copy(other.fee);
+            fee.copyPart(other.fee);
             playClaim = other.playClaim;
             playDays = other.playDays;
             playCode = other.playCode;
@@ -1821,10 +1821,10 @@ public final class Treeward {
         }
 
         /** Fills all rows, with a start of its own and tenths more for each step's UP. */
-        void fill(State state, Part start, int moreTenths) {
+        void grow(State state, Part start, int moreTenths) {
             levels = Math.min(state.steps, MOST_STEPS);
             for (int n = 0; n < levels; n++) {
-                step[n].copy(state.step[n]);
+                step[n].copyStep(state.step[n]);
                 Part up = step[n].factor[UP];
                 up.put(up.top * 10 + moreTenths * up.low, up.low * 10);
                 fillWeights(n);
@@ -1966,7 +1966,7 @@ public final class Treeward {
             return lowWeight[level][pair] >= 0;
         }
 
-        boolean hasSureWin(int end) {
+        boolean hasSureWinAhead(int end) {
             for (int n = 0; n < end && n < levels; n++) {
                 if (step[n].hasSureWin()) {
                     return true;
@@ -2191,7 +2191,7 @@ public final class Treeward {
             isFresh = false;
         }
 
-        void fill(Tree tree, Claim claim, Heap heap) {
+        void fillTable(Tree tree, Claim claim, Heap heap) {
             isFresh = true;
             end = Math.min(claim.end, tree.levels);
             for (int level = 0; level <= end; level++) {
@@ -2206,7 +2206,7 @@ public final class Treeward {
             degree = Math.min(heap.degree[0], MOST_STEPS);
             sideDegree = Math.min(heap.sideDegree[0], MOST_STEPS);
             scale[end].product(tree.power[degree], tree.sidePower[sideDegree]);
-            if (tree.hasSureWin(end)) {
+            if (tree.hasSureWinAhead(end)) {
                 return;
             }
             copyEnd(tree);
@@ -2335,7 +2335,7 @@ public final class Treeward {
             }
             d.top.copy(difference(tree, other, first));
             if (unlike == NONE) {
-                c.set(0);
+                c.setNumber(0);
             } else {
                 c.top.sum(difference(tree, other, unlike), d.top, true);
                 c.low.sum(tree.price[unlike], tree.price[first], true);
@@ -2571,8 +2571,8 @@ public final class Treeward {
             isFresh = true;
             node = 0;
             level = 0;
-            pieces.set(0);
-            fees.set(0);
+            pieces.setNumber(0);
+            fees.setNumber(0);
             money.top.copy(table.high[0]);
             money.low.copy(table.scale[0]);
             reckoner.reduce(money);
@@ -2586,11 +2586,11 @@ public final class Treeward {
             if (state.isOver) {
                 settle(tree, table, reckoner);
             }
-            spare.copy(money);
+            spare.copyRatio(money);
             if (!state.isOver) {
                 table.copyHolding(tree, node, level, true, 1, hand);
                 reckoner.reduce(hand);
-                reckoner.sum(spare, spare, hand, true);
+                reckoner.sumRatios(spare, spare, hand, true);
             }
         }
 
@@ -2598,38 +2598,38 @@ public final class Treeward {
         private void exchange(Part fee, Tree tree, Table table, Reckoner reckoner) {
             table.copyHolding(tree, node, level, true, 0, hand);
             reckoner.reduce(hand);
-            other.copy(pieces);
-            pieces.copy(hand);
-            reckoner.sum(hand, hand, other, true);
+            other.copyRatio(pieces);
+            pieces.copyRatio(hand);
+            reckoner.sumRatios(hand, hand, other, true);
             tree.copyPrice(other, node, level, 0);
             reckoner.times(hand, hand, other);
-            reckoner.sum(money, money, hand, true);
-            other.setTo(fee);
+            reckoner.sumRatios(money, money, hand, true);
+            other.setPart(fee);
             reckoner.times(hand, hand, other);
             hand.top.isBelow = false;
-            reckoner.sum(money, money, hand, true);
-            reckoner.sum(fees, fees, hand, false);
+            reckoner.sumRatios(money, money, hand, true);
+            reckoner.sumRatios(fees, fees, hand, false);
         }
 
         private void passDay(int way, Tree tree, Reckoner reckoner) {
-            hand.setTo(tree.step[level].interest);
+            hand.setPart(tree.step[level].interest);
             reckoner.times(money, money, hand);
             node = WAYS * node + 1 + way;
             level++;
             tree.copyPrice(hand, node, level, 5);
             reckoner.times(hand, hand, pieces);
-            reckoner.sum(money, money, hand, false);
+            reckoner.sumRatios(money, money, hand, false);
         }
 
         private void settle(Tree tree, Table table, Reckoner reckoner) {
             tree.copyPrice(hand, node, level, 0);
             reckoner.times(hand, hand, pieces);
-            reckoner.sum(money, money, hand, false);
-            pieces.set(0);
+            reckoner.sumRatios(money, money, hand, false);
+            pieces.setNumber(0);
             hand.top.copy(table.payoff[node]);
             hand.low.copy(table.scale[table.end]);
             reckoner.reduce(hand);
-            reckoner.sum(money, money, hand, true);
+            reckoner.sumRatios(money, money, hand, true);
         }
     }
 
@@ -2678,7 +2678,7 @@ public final class Treeward {
             }
         }
 
-        void sum(Ratio out, Ratio a, Ratio b, boolean isLess) {
+        void sumRatios(Ratio out, Ratio a, Ratio b, boolean isLess) {
             one.product(a.top, b.low);
             two.product(b.top, a.low);
             three.product(a.low, b.low);

@@ -332,7 +332,8 @@ public final class PromiseTests {
                 is(due[n][k], () -> x.due(0, node[0], node[1]));
             }
         }
-        is(4, () -> x.wall(0, 0, 1, 9));
+        is(4, () -> x.wall(0, 1, 99, 9));
+        is(1, () -> x.wall(0, 0, 1, 9));
         is("7", () -> x.due(0, 2, 0));
         is(0, () -> x.ofClaim(0, 2));
         fails(INDEX, x, () -> x.wall(1, 0, 1, 1));
@@ -439,6 +440,15 @@ public final class PromiseTests {
         is("3/5", () -> x.played(1));
         is("-3", () -> x.played(0));
         is("0", () -> x.played(3));
+        x.sell(1);
+        is("27/40", () -> x.played(1));
+        x.day(2);
+        x.day(2);
+        is("45/2", () -> x.played(2));
+        x.sell(1);
+        x.day(2);
+        is("15", () -> x.played(2));
+        is("9/10", () -> x.played(1));
         x.rate(1, 2, 1);
         fails(STATE, x, () -> x.sell(1));
         is(1, () -> x.sell(0));
@@ -579,6 +589,7 @@ public final class PromiseTests {
         is(0, x::undo);
         is("3", () -> x.price(0, 0, 0));
         keepsWhatIsNotUndone();
+        undoesFeesOfThePlay();
     }
 
     /** Each change, undone, leaves the digest that there was, as changes undone leave the count. */
@@ -607,6 +618,7 @@ public final class PromiseTests {
             long before = x.digest();
             String played = x.played(0);
             change.answer();
+            x.digest();
             is(kept + 1, () -> x.house(5));
             is(isOfTree ? 0 : n == 15 ? 2 : 1, () -> x.house(3));
             is(kept, x::undo);
@@ -619,6 +631,28 @@ public final class PromiseTests {
         is(2, x::unstep);
         x.undo();
         is(before, x::digest);
+    }
+
+    private static void undoesFeesOfThePlay() {
+        Treeward x = twoSteps();
+        claim(x, "s9-p", 2, false);
+        x.fee(1, 10);
+        x.sell(0);
+        x.day(2);
+        is("81/80", () -> x.played(4));
+        x.fee(1, 5);
+        x.sell(0);
+        x.day(2);
+        is("81/40", () -> x.played(4));
+        x.undo();
+        is("27/20", () -> x.played(4));
+        x.undo();
+        is("81/80", () -> x.played(4));
+        x.undo();
+        x.undo();
+        is("27/40", () -> x.played(4));
+        x.day(2);
+        is("81/80", () -> x.played(4));
     }
 
     private static void keepsWhatIsNotUndone() {
@@ -1055,6 +1089,10 @@ public final class PromiseTests {
         is("0", () -> x.worthOf(10, 1, true));
         is("18", () -> x.worthOf(18, 1, false));
         is("12", () -> x.worthOf(18, 1, true));
+        x.book(0, 1);
+        is("3", () -> x.worthOf(10, 1, false));
+        x.book(0, -1);
+        is("-1", () -> x.worthOf(10, 1, false));
         x.book(0, -2);
         is("-2", () -> x.worthOf(10, 1, false));
         is("-16", () -> x.worthOf(18, 1, true));
@@ -1097,6 +1135,13 @@ public final class PromiseTests {
         is("0", () -> x.least(0));
         x.rate(0, 9, 1);
         is("-14", () -> x.least(1));
+        Treeward y = twoSteps();
+        claim(y, "ss*", 1, false);
+        claim(y, "1", 1, false);
+        y.book(0, 1);
+        y.book(1, 1);
+        is("26", () -> y.least(1));
+        is("0", () -> y.least(2));
         fails(INDEX, x, () -> x.least(3));
         fails(INDEX, x, () -> x.least(-1));
     }
