@@ -47,7 +47,6 @@ public final class Treeward {
     private static final int SIGN_LESS = 16;
     private static final int SIGN_TIMES = 17;
     private static final int SIGN_GREATER = 18;
-    private static final int SIGN_SMALLER = 19;
     private static final int SIGN_POSITIVE = 20;
 
     private static final int BASE = 1000000000;
