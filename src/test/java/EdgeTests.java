@@ -4,8 +4,9 @@ import java.util.IdentityHashMap;
 import java.util.Map;
 
 /**
- * For each sentence of the document that names a boundary case a test of its own. What is due is
- * reckoned by hand from the document, not taken from the program.
+ * For each sentence of the document that names a boundary case a test of its own. Numbers and texts
+ * that are due were reckoned by hand from the document; whether a call changed nothing, or was
+ * undone, is seen by comparing the desk with one on which it was not made.
  */
 public final class EdgeTests {
     private static final String INDEX = "IndexOutOfBoundsException";
@@ -2011,6 +2012,18 @@ public final class EdgeTests {
         is("0 6", alike, y -> y.law(2, 1));
         alike.beside(0, 2, 1, 1, 2);
         is(".", alike, y -> y.law(2, 1));
+
+        says("Promise 36: at each NODE that is the END of both (not behind it, nor ahead).");
+        Treeward longer = fourSteps();
+        claim(longer, "s7-p", 2, false);
+        claim(longer, "7s-p", 2, false);
+        claim(longer, "aa+s-", 1, false);
+        claim(longer, "4", 1, false);
+        is("1 -7", longer, y -> y.law(0, 1));
+        is("0 6", longer, y -> y.law(2, 3));
+        longer.start(false, 9, 1);
+        longer.pays(0, 2, 9, 1);
+        is("0 5", longer, y -> y.law(2, 3));
 
         says("Promise 36: \".\" if both have unlike ENDS.");
         is(".", x, y -> y.law(1, 2));
