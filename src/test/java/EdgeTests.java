@@ -220,6 +220,23 @@ public final class EdgeTests {
         return x;
     }
 
+    /** Like busyAndFull, but nothing of its last step, its last claims and its days is as at first. */
+    private static Treeward busyAndFar() {
+        Treeward x = busyAndFull();
+        x.pays(3, 2, 1, 7);
+        x.beside(3, 4, 3, 1, 2);
+        x.middle(3, 7, 6);
+        x.wall(3, 4, 1, 2);
+        x.book(3, -4);
+        x.quote(2, 99, 1);
+        x.sell(2);
+        x.fee(1, 5);
+        x.day(2);
+        x.fee(1, 7);
+        x.day(0);
+        return x;
+    }
+
     /** A desk on which four steps of three ways, four claims and a play make each call dear. */
     private static Treeward heavy() {
         Treeward x = new Treeward();
@@ -1014,16 +1031,21 @@ public final class EdgeTests {
             x -> x.rate(1, 1, 9), x -> x.pays(1, 2, 9, 2), x -> x.beside(0, 9, 1, 1, 9), x -> x.wall(1, 1, 1, 9),
             x -> x.wall(0, 3, 99, 9), x -> x.book(1, 9), x -> x.quote(0, 99, 9), x -> x.quote(0, 1, 0),
             x -> x.fee(0, 1), x -> x.sell(1), x -> x.day(2), x -> x.step(9, 1, 1, 9, 1, 1)};
-        for (int n = 0; n < CHANGES.length + others.length; n++) {
-            Treeward x = busy();
-            x.digest();
-            (n < CHANGES.length ? CHANGES[n] : others[n - CHANGES.length]).of(x);
-            x.digest();
-            x.undo();
-            Treeward same = busy();
-            same.fee(1, 9);
-            same.undo();
-            alike(wideTrail(same), wideTrail(x));
+        for (Maker maker : new Maker[] {BUSY, BUSY_FULL, EdgeTests::busyAndFar}) {
+            for (int n = 0; n < CHANGES.length + others.length; n++) {
+                Treeward x = maker.make();
+                x.digest();
+                String got = answer(x, n < CHANGES.length ? CHANGES[n] : others[n - CHANGES.length]);
+                if (got.endsWith("Exception")) {
+                    continue;
+                }
+                x.digest();
+                x.undo();
+                x.fee(1, 9);
+                Treeward same = maker.make();
+                same.fee(1, 9);
+                alike(wideTrail(same), wideTrail(x));
+            }
         }
         Treeward dropped = busy();
         dropped.drop();

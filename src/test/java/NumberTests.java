@@ -2,6 +2,7 @@ import java.lang.reflect.Constructor;
 import java.lang.reflect.Field;
 import java.lang.reflect.Method;
 import java.math.BigInteger;
+import java.util.Arrays;
 
 /**
  * The whole numbers inside the class, against BigInteger: above all those rare digits at which a
@@ -34,10 +35,13 @@ public final class NumberTests {
         return found;
     }
 
+    /** A number whose room still holds the digits of an earlier one, as rows that are used again do. */
     private static Object make() throws ReflectiveOperationException {
-        Constructor<?> made = whole.getDeclaredConstructor(int.class);
-        made.setAccessible(true);
-        return made.newInstance(ROOM);
+        Constructor<?> constructor = whole.getDeclaredConstructor(int.class);
+        constructor.setAccessible(true);
+        Object made = constructor.newInstance(ROOM);
+        Arrays.fill((int[]) field("digit").get(made), BASE - 1);
+        return made;
     }
 
     private static Object of(BigInteger value) throws ReflectiveOperationException {
